@@ -327,6 +327,11 @@ public final class PromisesTest {
         check.answers("a put number changes some", 0, () -> row.about(5, 6, 2));
         check.answers("a shift by 0", 1, () -> row.about(6, 7, 2));
         check.answers("an empty part changes none", 1, () -> row.about(256, 256, 2));
+        FoldRow lone = row(4, -5, 3, 5, 4, 0, 3, 0);
+        for (int k = 0; k < 4; k++) {
+            int from = k;
+            check.answers("one bound alone, rule " + k, 0, () -> lone.about(from, from + 1, 0));
+        }
         FoldRow near = row(3, 10, 4, 11, 3, -V, 4, V);
         check.answers("bounds side by side", 0, () -> near.about(0, 2, 0));
         check.answers("the lowest bound changes some", 0, () -> near.about(2, 3, 2));
