@@ -12,13 +12,7 @@ final class Check {
     private int looked = 0;
 
     void answers(String call, long due, Call got) {
-        String answer;
-        try {
-            answer = Long.toString(got.answer());
-        } catch (RuntimeException e) {
-            answer = "throws." + e.getClass().getSimpleName();
-        }
-        same(call, Long.toString(due), answer);
+        same(call, Long.toString(due), told(got));
     }
 
     void refuses(String call, Class<? extends RuntimeException> due, Deed got) {
@@ -44,7 +38,17 @@ final class Check {
         }
     }
 
-    private static String outcome(Deed got) {
+    /** The answer of a call as a text, or what it throws. */
+    static String told(Call got) {
+        try {
+            return Long.toString(got.answer());
+        } catch (RuntimeException e) {
+            return "throws." + e.getClass().getSimpleName();
+        }
+    }
+
+    /** Whether a call throws, and what, whatever it answers. */
+    static String outcome(Deed got) {
         try {
             got.run();
         } catch (RuntimeException e) {

@@ -66,11 +66,60 @@ public final class ModelTest {
         int from = Math.min(a, b);
         int to = Math.max(a, b);
         int call = below(14);
-        if (call < 5) {
+        if (below(8) == 0) {
+            callWrongly(from, to);
+        } else if (call < 5) {
             change(call, from, to);
         } else {
             ask(call, from, to);
         }
+    }
+
+    /** A call with one or more wrong arguments; the model is left as it is. */
+    private void callWrongly(int from, int to) {
+        int mistakes = 1 + below(3);
+        boolean argument = mistakes != 2;
+        boolean noPart = mistakes != 1;
+        int shift = 1 + below(3);
+        int a = noPart && below(2) == 0 ? -shift : from;
+        int b = noPart && a >= 0 ? 256 + shift : to;
+        int k = noPart ? (below(2) == 0 ? -shift : 255 + shift) : below(width);
+        int kind = argument && below(2) == 0 ? (below(2) == 0 ? -shift : 4 + shift) : below(5);
+        long beyond = argument ? (below(2) == 0 ? -shift : shift) : 0L;
+        long v = beyond == 0L ? value() : beyond + (beyond < 0 ? -1000000000L : 1000000000L);
+        long x = beyond == 0L ? number() : beyond + (beyond < 0 ? -1000000000000L : 1000000000000L);
+        int n = beyond == 0L ? below(1001) : beyond < 0 ? -shift : 1000 + shift;
+        int what = beyond == 0L ? below(3) : beyond < 0 ? -shift : 2 + shift;
+        String due = argument ? "throws.IllegalArgumentException" : "throws.IndexOutOfBoundsException";
+        Check.Deed deed = switch (below(6)) {
+            case 0 -> () -> row.set(k, kind, v);
+            case 1 -> () -> row.fill(a, b, kind, v);
+            case 2 -> () -> row.fold(a, b, x);
+            case 3 -> () -> row.again(a, b, x, n);
+            case 4 -> () -> row.about(a, b, what);
+            default -> null;
+        };
+        if (deed == null) {
+            askNoPart(a, b, noPart);
+        } else {
+            check.same("run " + run + ": a wrong call", due, Check.outcome(deed));
+        }
+    }
+
+    /** These calls have nothing that could be wrong but their part or rule. */
+    private void askNoPart(int a, int b, boolean noPart) {
+        int from = noPart ? a : b + 1;
+        int wrongRule = below(2) == 0 ? -1 - below(3) : 256 + below(3);
+        int rule = below(width);
+        Check.Deed deed = switch (below(6)) {
+            case 0 -> () -> row.least(from, b);
+            case 1 -> () -> row.greatest(from, b);
+            case 2 -> () -> row.fixed(from, b, false);
+            case 3 -> () -> row.fixed(from, b, true);
+            case 4 -> () -> row.swap(rule, wrongRule);
+            default -> () -> row.swap(wrongRule, rule);
+        };
+        check.same("run " + run + ": no part or rule", "throws.IndexOutOfBoundsException", Check.outcome(deed));
     }
 
     private void change(int call, int from, int to) {
@@ -78,7 +127,8 @@ public final class ModelTest {
         long v = value();
         int j = below(width);
         int k = below(width);
-        if (call < 3) {
+        // A fill wipes much away, so it comes seldom.
+        if (call < 3 || call == 4 && below(4) != 0) {
             row.set(k, kind, v);
             put(k, kind, v);
         } else if (call == 3) {
@@ -87,7 +137,7 @@ public final class ModelTest {
             long oldValue = values[j];
             put(j, kinds[k], values[k]);
             put(k, oldKind, oldValue);
-        } else if (below(4) == 0) {
+        } else {
             row.fill(from, to, kind, v);
             for (int i = from; i < to; i++) {
                 put(i, kind, v);
